@@ -501,10 +501,14 @@ public final class MoneyBooth {
         long most = behindOneChange(at, goal, amount);
         for (int over = 0; over < MONEYS; over++) {
             if ((visited & bit(over)) == 0) {
-                long there = behindOneChange(at, over, amount);
-                most = Math.max(most, mostAtGoal(over, goal, there, visited | bit(over), changesLeft - 1));
+                most = Math.max(most, mostOver(at, over, goal, amount, visited, changesLeft));
             }
         }
         return most;
+    }
+
+    private long mostOver(int at, int over, int goal, long amount, int visited, int changesLeft) {
+        long there = behindOneChange(at, over, amount);
+        return mostAtGoal(over, goal, there, visited | bit(over), changesLeft - 1);
     }
 }

@@ -232,6 +232,7 @@ public final class PromisesTest {
         due("next()", 2, () -> x.next());
         due("count(0)", 1, () -> x.count(0));
         dueMoney("next day", x, 1, 990, 0, 10, 10, 100009);
+        dueMoney("next day", x, 0, 1020, 0, 10, 0, 99979);
         dueMoney("next day", x, 4, 1000, 0, 10, 0, 99999);
         dueOrder("that stays", x, 0, 0, 0, 1, 1, 1);
         due("next()", 1, () -> x.next());
@@ -774,6 +775,16 @@ public final class PromisesTest {
         steps.cancel(0);
         steps.order(0, 0, 1, 30003, 99909);
         due("333 gives 99909", 333, () -> steps.needs(0, 1));
+        steps.cancel(0);
+        steps.order(0, 0, 1, 100, 9999);
+        due("the highest rate", 9999, () -> steps.needs(0, 1));
+        steps.cancel(0);
+        steps.order(0, 0, 1, 99, 9900);
+        due("one above the highest rate", -1, () -> steps.needs(0, 1));
+        steps.cancel(0);
+        steps.setSpread(3);
+        steps.order(0, 0, 1, 1, 54);
+        due("5567 gives 53.9999", 5568, () -> steps.needs(0, 1));
     }
 
     private static void mean() {
@@ -782,6 +793,7 @@ public final class PromisesTest {
         x.come();
         CHECK.holds("mean(0) of nothing is 0", x.mean(0) == 0.0);
         x.earn(0, 0, 7);
+        CHECK.holds("mean(0) of one customer is 7", x.mean(0) == 7.0);
         x.come();
         CHECK.holds("mean(0) is 3.5", x.mean(0) == 3.5);
         x.come();
