@@ -4,8 +4,20 @@ final class Check {
         long answer();
     }
 
+    private final String about;
+    private final boolean prints;
     private int made;
     private int wrong;
+
+    Check() {
+        this("", true);
+    }
+
+    /** Prints what is asked about ahead of each wrong answer, if it prints at all. */
+    Check(String about, boolean prints) {
+        this.about = about;
+        this.prints = prints;
+    }
 
     void due(String call, long want, Call made) {
         this.made++;
@@ -17,6 +29,10 @@ final class Check {
         } catch (RuntimeException e) {
             fail(call + " throws " + e + ", due is " + want);
         }
+    }
+
+    void is(String call, long want, long got) {
+        due(call, want, () -> got);
     }
 
     void refused(MoneyBooth booth, String call, Class<? extends RuntimeException> want, Call made) {
@@ -41,9 +57,19 @@ final class Check {
         }
     }
 
-    private void fail(String what) {
+    void fail(String what) {
         wrong++;
-        System.out.println("WRONG: " + what);
+        if (prints) {
+            System.out.println("WRONG: " + about + what);
+        }
+    }
+
+    int made() {
+        return made;
+    }
+
+    int wrong() {
+        return wrong;
     }
 
     void end() {

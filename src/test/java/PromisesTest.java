@@ -3,10 +3,10 @@ import java.util.List;
 
 /** One method or more for each promise of the document, with answers reckoned by hand from its words. */
 public final class PromisesTest {
-    private static final Class<IndexOutOfBoundsException> NO_SUCH = IndexOutOfBoundsException.class;
-    private static final Class<IllegalArgumentException> BAD = IllegalArgumentException.class;
-    private static final Class<IllegalStateException> NOT_NOW = IllegalStateException.class;
-    private static final int[] OUTSIDE = {-1, 5, Integer.MIN_VALUE, Integer.MAX_VALUE};
+    private static final Class<IndexOutOfBoundsException> NO_SUCH = Booths.NO_SUCH;
+    private static final Class<IllegalArgumentException> BAD = Booths.BAD;
+    private static final Class<IllegalStateException> NOT_NOW = Booths.NOT_NOW;
+    private static final int[] OUTSIDE = Booths.OUTSIDE;
     private static final Check CHECK = new Check();
 
     public static void main(String[] args) {
@@ -43,28 +43,6 @@ public final class PromisesTest {
 
     private static void due(String call, long want, Check.Call made) {
         CHECK.due(call, want, made);
-    }
-
-    private static MoneyBooth withCustomers(int customers) {
-        MoneyBooth x = new MoneyBooth();
-        for (int i = 0; i < customers; i++) {
-            x.come();
-        }
-        return x;
-    }
-
-    /** One customer with 99999 of each money, and a rate of 100 from each money to each other one. */
-    private static MoneyBooth evenBooth() {
-        MoneyBooth x = withCustomers(1);
-        for (int money = 0; money < 5; money++) {
-            x.earn(0, money, 99999);
-            for (int to = 0; to < 5; to++) {
-                if (money != to) {
-                    x.setRate(money, to, 100);
-                }
-            }
-        }
-        return x;
     }
 
     private static void dueMoney(String when, MoneyBooth x, int money, int... facts) {
@@ -129,7 +107,7 @@ public final class PromisesTest {
     }
 
     private static void setRateLooksAtOrders() {
-        MoneyBooth x = withCustomers(1);
+        MoneyBooth x = Booths.withCustomers(1);
         x.setRate(0, 1, 100);
         x.order(0, 0, 1, 50, 60);
         due("setRate(0, 1, 120), nothing in the purse", 0, () -> x.setRate(0, 1, 120));
@@ -149,7 +127,7 @@ public final class PromisesTest {
     }
 
     private static void setSpread() {
-        MoneyBooth x = withCustomers(1);
+        MoneyBooth x = Booths.withCustomers(1);
         x.setRate(0, 1, 100);
         due("setSpread(50)", 0, () -> x.setSpread(50));
         due("would(0, 1, 100)", 50, () -> x.would(0, 1, 100));
@@ -174,7 +152,7 @@ public final class PromisesTest {
     }
 
     private static void setLimit() {
-        MoneyBooth x = evenBooth();
+        MoneyBooth x = Booths.evenBooth();
         due("setLimit(2, 0)", 9999, () -> x.setLimit(2, 0));
         due("setLimit(2, 99999)", 0, () -> x.setLimit(2, 99999));
         due("setLimit(2, 30)", 99999, () -> x.setLimit(2, 30));
@@ -197,7 +175,7 @@ public final class PromisesTest {
     }
 
     private static void stock() {
-        MoneyBooth x = evenBooth();
+        MoneyBooth x = Booths.evenBooth();
         due("stock(3, 1)", 1001, () -> x.stock(3, 1));
         due("stock(3, 99999)", 101000, () -> x.stock(3, 99999));
         for (int i = 0; i < 8; i++) {
@@ -220,7 +198,7 @@ public final class PromisesTest {
     }
 
     private static void next() {
-        MoneyBooth x = evenBooth();
+        MoneyBooth x = Booths.evenBooth();
         for (int money = 0; money < 5; money++) {
             x.setLimit(money, 10);
             x.change(0, money, (money + 1) % 5, 10);
@@ -258,7 +236,7 @@ public final class PromisesTest {
     }
 
     private static void earn() {
-        MoneyBooth x = withCustomers(2);
+        MoneyBooth x = Booths.withCustomers(2);
         due("earn(0, 4, 1)", 1, () -> x.earn(0, 4, 1));
         due("earn(0, 4, 99999)", 100000, () -> x.earn(0, 4, 99999));
         due("earn(1, 0, 7)", 7, () -> x.earn(1, 0, 7));
@@ -282,7 +260,7 @@ public final class PromisesTest {
     }
 
     private static void change() {
-        MoneyBooth x = withCustomers(2);
+        MoneyBooth x = Booths.withCustomers(2);
         x.earn(0, 0, 500);
         x.earn(1, 1, 5);
         x.setRate(0, 1, 250);
@@ -307,7 +285,7 @@ public final class PromisesTest {
     }
 
     private static void changeConditions() {
-        MoneyBooth x = withCustomers(2);
+        MoneyBooth x = Booths.withCustomers(2);
         x.earn(0, 0, 99999);
         x.earn(1, 0, 10);
         CHECK.refused(x, "change at a rate of 0", NOT_NOW, () -> x.change(0, 0, 1, 10));
@@ -338,7 +316,7 @@ public final class PromisesTest {
     }
 
     private static void changeKeepsDust() {
-        MoneyBooth x = withCustomers(1);
+        MoneyBooth x = Booths.withCustomers(1);
         x.earn(0, 0, 99999);
         x.setRate(0, 1, 250);
         due("change", 82, () -> x.change(0, 0, 1, 33));
@@ -366,7 +344,7 @@ public final class PromisesTest {
     }
 
     private static void changeLosesWhatIsTooMuch() {
-        MoneyBooth x = evenBooth();
+        MoneyBooth x = Booths.evenBooth();
         for (int i = 0; i < 10; i++) {
             x.earn(0, 1, 99999);
             x.stock(0, 99999);
@@ -387,7 +365,7 @@ public final class PromisesTest {
     }
 
     private static void order() {
-        MoneyBooth x = withCustomers(3);
+        MoneyBooth x = Booths.withCustomers(3);
         due("order(0, 0, 1, 1, 1)", 1, () -> x.order(0, 0, 1, 1, 1));
         due("order(2, 3, 4, 99999, 99999)", 2, () -> x.order(2, 3, 4, 99999, 99999));
         dueOrder("first", x, 0, 0, 0, 1, 1, 1);
@@ -411,7 +389,7 @@ public final class PromisesTest {
         CHECK.refused(x, "an eleventh of no customer", NO_SUCH, () -> x.order(3, 0, 1, 1, 1));
         CHECK.refused(x, "an eleventh of no amount", BAD, () -> x.order(0, 0, 1, 0, 1));
         dueOrder("tenth", x, 9, 1, 4, 0, 10, 2);
-        MoneyBooth y = evenBooth();
+        MoneyBooth y = Booths.evenBooth();
         y.order(0, 0, 1, 10, 10);
         due("not looked at at once", 1, () -> y.count(3));
         due("has(0, 0)", 99999, () -> y.has(0, 0));
@@ -419,7 +397,7 @@ public final class PromisesTest {
     }
 
     private static void ordersAreLookedAtInTheirOrder() {
-        MoneyBooth x = evenBooth();
+        MoneyBooth x = Booths.evenBooth();
         x.order(0, 0, 1, 600, 1);
         x.order(0, 0, 1, 600, 1);
         x.order(0, 0, 1, 400, 1);
@@ -428,18 +406,18 @@ public final class PromisesTest {
         dueMoney("given", x, 1, 0, 0, 9999, 1000, 100999);
         dueCounts("two done", x, 1, 0, 1, 1, 20, 2, 2);
 
-        MoneyBooth ahead = evenBooth();
+        MoneyBooth ahead = Booths.evenBooth();
         ahead.order(0, 0, 1, 500, 500);
         ahead.order(0, 1, 0, 1200, 1200);
         due("what the first paid in serves the second", 2, () -> ahead.next());
 
-        MoneyBooth behind = evenBooth();
+        MoneyBooth behind = Booths.evenBooth();
         behind.order(0, 1, 0, 1200, 1200);
         behind.order(0, 0, 1, 500, 500);
         due("each is looked at once", 1, () -> behind.next());
         due("again on another day", 1, () -> behind.next());
 
-        MoneyBooth purse = withCustomers(2);
+        MoneyBooth purse = Booths.withCustomers(2);
         purse.earn(1, 0, 10);
         purse.setRate(0, 1, 200);
         purse.order(0, 0, 1, 10, 1);
@@ -449,7 +427,7 @@ public final class PromisesTest {
         dueOrder("that of the poor one stays", purse, 0, 0, 0, 1, 10, 1);
         due("has(1, 2)", 10, () -> purse.has(1, 2));
 
-        MoneyBooth gaps = evenBooth();
+        MoneyBooth gaps = Booths.evenBooth();
         for (int i = 0; i < 10; i++) {
             gaps.order(0, 0, 1 + i % 4, 1 + i, i % 3 == 0 ? 50 : 1);
         }
@@ -461,7 +439,7 @@ public final class PromisesTest {
     }
 
     private static void cancel() {
-        MoneyBooth x = withCustomers(4);
+        MoneyBooth x = Booths.withCustomers(4);
         CHECK.refused(x, "cancel(0) without orders", NO_SUCH, () -> x.cancel(0));
         for (int i = 0; i < 4; i++) {
             x.order(3 - i, i, i + 1, 10 + i, 20 + i);
@@ -482,7 +460,7 @@ public final class PromisesTest {
     }
 
     private static void has() {
-        MoneyBooth x = withCustomers(6);
+        MoneyBooth x = Booths.withCustomers(6);
         for (int customer = 0; customer < 6; customer++) {
             for (int money = 0; money < 5; money++) {
                 x.earn(customer, money, 100 + 10 * customer + money);
@@ -495,7 +473,7 @@ public final class PromisesTest {
                 due("has(" + c + ", " + m + ")", 100 + 10 * c + m, () -> x.has(c, m));
             }
         }
-        MoneyBooth y = withCustomers(1);
+        MoneyBooth y = Booths.withCustomers(1);
         for (int out : OUTSIDE) {
             CHECK.refused(y, "has(" + out + ", 0)", NO_SUCH, () -> y.has(out, 0));
             CHECK.refused(y, "has(0, " + out + ")", NO_SUCH, () -> y.has(0, out));
@@ -505,7 +483,7 @@ public final class PromisesTest {
     }
 
     private static void told() {
-        MoneyBooth x = withCustomers(2);
+        MoneyBooth x = Booths.withCustomers(2);
         x.earn(0, 3, 700);
         x.earn(1, 3, 50);
         x.earn(1, 2, 300);
@@ -519,7 +497,7 @@ public final class PromisesTest {
             CHECK.refused(x, "told(" + out + ", 0)", NO_SUCH, () -> x.told(out, 0));
             CHECK.refused(x, "told(0, " + out + ")", NO_SUCH, () -> x.told(0, out));
         }
-        MoneyBooth rich = withCustomers(6);
+        MoneyBooth rich = Booths.withCustomers(6);
         for (int customer = 0; customer < 6; customer++) {
             for (int i = 0; i < 11; i++) {
                 rich.earn(customer, 4, 99999);
@@ -529,7 +507,7 @@ public final class PromisesTest {
     }
 
     private static void about() {
-        MoneyBooth x = withCustomers(2);
+        MoneyBooth x = Booths.withCustomers(2);
         CHECK.refused(x, "about(0, 0) without orders", NO_SUCH, () -> x.about(0, 0));
         x.order(1, 4, 2, 77, 88);
         dueOrder("about", x, 0, 1, 4, 2, 77, 88);
@@ -545,7 +523,7 @@ public final class PromisesTest {
     }
 
     private static void count() {
-        MoneyBooth x = withCustomers(3);
+        MoneyBooth x = Booths.withCustomers(3);
         x.next();
         x.next();
         x.setSpread(7);
@@ -563,7 +541,7 @@ public final class PromisesTest {
         for (int out : new int[] {-1, 7, Integer.MIN_VALUE, Integer.MAX_VALUE}) {
             CHECK.refused(x, "count(" + out + ")", NO_SUCH, () -> x.count(out));
         }
-        MoneyBooth even = evenBooth();
+        MoneyBooth even = Booths.evenBooth();
         due("all rates", 20, () -> even.count(4));
     }
 
@@ -702,7 +680,7 @@ public final class PromisesTest {
     }
 
     private static void needs() {
-        MoneyBooth x = withCustomers(2);
+        MoneyBooth x = Booths.withCustomers(2);
         due("no order", -1, () -> x.needs(0, 1));
         x.earn(0, 0, 1000);
         x.order(0, 0, 1, 100, 245);
@@ -741,7 +719,7 @@ public final class PromisesTest {
     }
 
     private static void needsConditions() {
-        MoneyBooth x = withCustomers(2);
+        MoneyBooth x = Booths.withCustomers(2);
         x.earn(0, 0, 99);
         x.order(0, 0, 1, 100, 50);
         x.order(0, 0, 1, 10, 50);
@@ -758,7 +736,7 @@ public final class PromisesTest {
         due("above what is left of the limit", -1, () -> x.needs(0, 1));
         x.setLimit(1, 51);
         due("at what is left of the limit", 50, () -> x.needs(0, 1));
-        MoneyBooth poor = evenBooth();
+        MoneyBooth poor = Booths.evenBooth();
         poor.setRate(0, 1, 0);
         poor.change(0, 2, 1, 990);
         poor.order(0, 0, 1, 20, 11);
@@ -766,7 +744,7 @@ public final class PromisesTest {
         poor.stock(1, 1);
         due("at the stock", 55, () -> poor.needs(0, 1));
         // 99999 is asked for 30003: the least rate gives 99999 or more than that by a step of 300
-        MoneyBooth steps = withCustomers(1);
+        MoneyBooth steps = Booths.withCustomers(1);
         steps.earn(0, 0, 30003);
         steps.stock(1, 99999);
         steps.setLimit(1, 99999);
