@@ -302,7 +302,8 @@ public final class CustomersTest {
 
     @Sentence(of = "Promise 11", words = "Takes a waiting order back.")
     @Fault(in = "cancel", from = "moveOrder(behind, behind - 1);", to = "")
-    @Fault(in = "cancel", from = "behind = place + 1; behind < waiting", to = "behind = place + 1; behind < waiting - 1")
+    @Fault(in = "cancel", from = "behind = place + 1; behind < waiting",
+            to = "behind = place + 1; behind < waiting - 1")
     @Fault(in = "cancel", from = "behind = place + 1", to = "behind = place + 2")
     @Fault(in = "cancel", from = "waiting--;", to = "waiting--; ordersDone++;")
     static void cancelTakesBack(Check check) {

@@ -29,7 +29,8 @@ public final class FaceTest {
 
     @Sentence(of = "The public face", words = "public MoneyBooth();")
     @Fault(in = "MoneyBooth", from = "public MoneyBooth() {", to = "MoneyBooth() {")
-    @Fault(in = "MoneyBooth", from = "public MoneyBooth() {", to = "private MoneyBooth(int day) { this(); } public MoneyBooth() {")
+    @Fault(in = "MoneyBooth", from = "public MoneyBooth() {",
+            to = "private MoneyBooth(int day) { this(); } public MoneyBooth() {")
     static void oneConstructor(Check check) {
         Constructor<?>[] all = MoneyBooth.class.getDeclaredConstructors();
         check.is("constructors", 1, all.length);
@@ -76,10 +77,11 @@ public final class FaceTest {
         return line.toString();
     }
 
-    @Sentence(of = "The public face", words = "public final class MoneyBooth { public MoneyBooth(); public int setRate(")
+    @Sentence(of = "The public face", words = "public MoneyBooth(); public int setRate(")
     @Fault(from = "private static final int MONEYS", to = "public static final int MONEYS")
     @Fault(from = "private int day;", to = "int day;")
-    @Fault(in = "bit", from = "private static int bit(", to = "private static int next(int money) { return money; } private static int bit(")
+    @Fault(in = "bit", from = "private static int bit(",
+            to = "private static int next(int money) { return money; } private static int bit(")
     static void nothingElse(Check check) {
         Set<String> names = new TreeSet<>();
         for (Method method : MoneyBooth.class.getMethods()) {

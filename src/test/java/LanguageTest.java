@@ -37,20 +37,25 @@ public final class LanguageTest {
         breaks(source, 4, "/** An exchange", "import java.util.List;\n/** An exchange");
         breaks(source, 4, "no such place", "no such pl\u00e4ce");
         breaks(source, 5, "static final int MONEYS", "static int MONEYS");
-        breaks(source, 5, "static final int MONEYS = 5;", "static final int MONEYS = 5;\n    private static final int[] KEPT = new int[2];");
-        breaks(source, 6, "throw new IllegalStateException(\"10 orders wait\")", "throw new IllegalStateException(\"\" + waiting)");
+        breaks(source, 5, "static final int MONEYS = 5;",
+                "static final int MONEYS = 5;\n    private static final int[] KEPT = new int[2];");
+        breaks(source, 6, "throw new IllegalStateException(\"10 orders wait\")",
+                "throw new IllegalStateException(\"\" + waiting)");
         breaks(source, 6, "throw new IllegalStateException(\"10 orders wait\")", "throw new Error(\"10 orders wait\")");
         breaks(source, 6, "stocks[money] = FIRST_STOCK;", "throw new IllegalStateException(\"no stock\");");
         breaks(source, 6, "day++;", "try { day++; } catch (RuntimeException e) { day--; }");
         breaks(source, 8, "return place < 0 ? -1 : leastRateFor(place);", "return needs(to, from);");
-        breaks(source, 8, "long there = behindOneChange", "long there = mostOver(at, over, goal, 0, 0, 0); there = behindOneChange");
+        breaks(source, 8, "long there = behindOneChange",
+                "long there = mostOver(at, over, goal, 0, 0, 0); there = behindOneChange");
         breaks(source, 9, "day++;", "while (day < 3) { day++; }");
-        breaks(source, 9, "for (int money = 0; money < MONEYS; money++) {\n            givenToday", "for (int money = 0; money < MONEYS;) {\n            givenToday");
+        breaks(source, 9, "for (int money = 0; money < MONEYS; money++) {\n            givenToday",
+                "for (int money = 0; money < MONEYS;) {\n            givenToday");
         breaks(source, 11, "int bit(int money)", "int bit(int money, int b, int c, int d, int e, int f, int g, int h)");
         breaks(source, 11, "day++;", "day++;" + "\n        day += 0;".repeat(60));
         breaks(source, 11, "private int day;", fields(8));
         breaks(source, 11, "    // ---- changes", chain(8) + "    // ---- changes");
-        breaks(source, 11, "    // ---- changes", "    private static final class Jar {\n    }\n".repeat(12) + "    // ---- changes");
+        breaks(source, 11, "    // ---- changes",
+                "    private static final class Jar {\n    }\n".repeat(12) + "    // ---- changes");
         breaks(source, 12, "day++;", "int[] row = new int[5];");
         breaks(source, 12, "day++;", "day++; StringBuilder text = new StringBuilder();");
         CHECK.holds("twenty fields are not too many", broken(source.replace("private int day;", fields(7))).isEmpty());
@@ -87,7 +92,8 @@ public final class LanguageTest {
 
     private static List<String> broken(String source) {
         List<String> broken = new ArrayList<>();
-        String code = source.replaceAll("(?s)/\\*.*?\\*/", "").replaceAll("//[^\n]*", "").replaceAll("\"[^\"\n]*\"", "\"\"");
+        String code = source.replaceAll("(?s)/\\*.*?\\*/", "").replaceAll("//[^\n]*", "")
+                .replaceAll("\"[^\"\n]*\"", "\"\"");
         words(code, broken);
         exceptions(code, broken);
         fieldsAndClasses(code, broken);
@@ -118,7 +124,8 @@ public final class LanguageTest {
 
     private static void exceptions(String code, List<String> broken) {
         each(broken, 6, "\\b(try|catch|finally|synchronized|assert)\\b", code);
-        each(broken, 6, "\\bthrow\\b(?! new (IllegalState|IllegalArgument|IndexOutOfBounds)Exception\\(\"\"\\);)[^\n]*", code);
+        each(broken, 6,
+                "\\bthrow\\b(?! new (IllegalState|IllegalArgument|IndexOutOfBounds)Exception\\(\"\"\\);)[^\n]*", code);
         each(broken, 6, "\n    public MoneyBooth\\((?s:(?!\n    \\}).)*\\bthrow\\b", code);
     }
 
@@ -197,7 +204,8 @@ public final class LanguageTest {
 
     /** A row is made once, in its field: so no call makes an object but the exception that it throws. */
     private static void made(String code, List<String> broken) {
-        each(broken, 12, "\n(?! +throw new I\\w+Exception\\(\"\"\\);\n|    private final int\\[\\] \\w+ = new int\\[[A-Z_ *]+\\];\n)"
+        each(broken, 12, "\n(?! +throw new I\\w+Exception\\(\"\"\\);\n"
+                + "|    private final int\\[\\] \\w+ = new int\\[[A-Z_ *]+\\];\n)"
                 + "[^\n]*\\bnew\\b[^\n]*", code);
     }
 }

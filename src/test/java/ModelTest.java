@@ -67,7 +67,8 @@ public final class ModelTest {
         int orders = m.orders.size();
         switch (part) {
             case MONEY: return below(40) == 0 ? oneOf(-1, 5, Integer.MAX_VALUE, Integer.MIN_VALUE) : below(5);
-            case CUSTOMER: return below(40) == 0 ? oneOf(-1, 6, customers, Integer.MIN_VALUE) : below(Math.max(1, customers));
+            case CUSTOMER:
+                return below(40) == 0 ? oneOf(-1, 6, customers, Integer.MIN_VALUE) : below(Math.max(1, customers));
             case PLACE: return below(10) == 0 ? oneOf(-1, 10, orders, Integer.MAX_VALUE) : below(Math.max(1, orders));
             case WHAT: return below(9) - 1;
             case RATE: return rate();

@@ -146,13 +146,15 @@ public final class SentencesTest {
     private static byte[] compiled(String source) throws IOException {
         JavaCompiler compiler = ToolProvider.getSystemJavaCompiler();
         ByteArrayOutputStream bytes = new ByteArrayOutputStream();
-        JavaFileObject text = new SimpleJavaFileObject(URI.create("text:///MoneyBooth.java"), JavaFileObject.Kind.SOURCE) {
+        JavaFileObject text = new SimpleJavaFileObject(URI.create("text:///MoneyBooth.java"),
+                JavaFileObject.Kind.SOURCE) {
             @Override
             public CharSequence getCharContent(boolean ignored) {
                 return source;
             }
         };
-        JavaFileObject booth = new SimpleJavaFileObject(URI.create("bytes:///MoneyBooth.class"), JavaFileObject.Kind.CLASS) {
+        JavaFileObject booth = new SimpleJavaFileObject(URI.create("bytes:///MoneyBooth.class"),
+                JavaFileObject.Kind.CLASS) {
             @Override
             public OutputStream openOutputStream() {
                 return bytes;

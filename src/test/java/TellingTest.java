@@ -57,7 +57,8 @@ public final class TellingTest {
             + "4 how much of it all customers have, added")
     @Fault(in = "factOfMoney", from = "case 0: return stocks", to = "case 0: return dusts")
     @Fault(in = "factOfMoney", from = "case 1: return dusts[money]", to = "case 1: return dusts[money] / 100")
-    @Fault(in = "factOfMoney", from = "case 2: return limits[money]", to = "case 2: return limits[money] - givenToday[money]")
+    @Fault(in = "factOfMoney", from = "case 2: return limits[money]",
+            to = "case 2: return limits[money] - givenToday[money]")
     @Fault(in = "factOfMoney", from = "case 3: return givenToday", to = "case 3: return limits")
     @Fault(in = "factOfMoney", from = "default: return inAllPurses(money)", to = "default: return inPurse(0, money)")
     @Fault(in = "inAllPurses", from = "int customer = 0", to = "int customer = 1")
@@ -87,9 +88,11 @@ public final class TellingTest {
     }
 
     @Sentence(of = "Promise 13", words = "Returns this.")
-    @Fault(in = "factOfMoney", from = "case 0: return stocks[money]", to = "case 0: return Math.min(stocks[money], 999998)")
+    @Fault(in = "factOfMoney", from = "case 0: return stocks[money]",
+            to = "case 0: return Math.min(stocks[money], 999998)")
     @Fault(in = "factOfMoney", from = "case 1: return dusts[money]", to = "case 1: return Math.min(dusts[money], 9998)")
-    @Fault(in = "factOfMoney", from = "case 2: return limits[money]", to = "case 2: return Math.min(limits[money], 99998)")
+    @Fault(in = "factOfMoney", from = "case 2: return limits[money]",
+            to = "case 2: return Math.min(limits[money], 99998)")
     @Fault(in = "factOfMoney", from = "case 3: return givenToday[money]",
             to = "case 3: return Math.min(givenToday[money], 99998)")
     @Fault(in = "factOfMoney", from = "case 0: return stocks[money]", to = "case 0: return Math.max(stocks[money], 1)")

@@ -280,7 +280,8 @@ public final class TermsTest {
     @Sentence(of = "Terms", words = "amount * rate * (100 - spread) tenthousandths (in whole, it does not wrap around)")
     @Fault(in = "tenthousandths", from = "amount * rateOf(from, to) * (WHOLE_PERCENT - spread)",
             to = "(int) (amount * rateOf(from, to) * (WHOLE_PERCENT - spread))")
-    @Fault(in = "tenthousandths", from = "amount * rateOf(from, to) *", to = "(long) (int) (amount * rateOf(from, to)) *")
+    @Fault(in = "tenthousandths", from = "amount * rateOf(from, to) *",
+            to = "(long) (int) (amount * rateOf(from, to)) *")
     @Fault(in = "tenthousandths", from = "(WHOLE_PERCENT - spread)", to = "WHOLE_PERCENT")
     static void amountsDoNotWrapAround(Check check) {
         MoneyBooth x = Booths.withCustomers(1);
@@ -562,10 +563,12 @@ public final class TermsTest {
             + "orders are looked at")
     @Fault(in = "setRate", from = "return lookAtOrders()", to = "return rate == 0 ? 0 : lookAtOrders()")
     @Fault(in = "setRate", from = "return lookAtOrders()", to = "return from == 4 ? 0 : lookAtOrders()")
-    @Fault(in = "setSpread", from = "this.spread = spread;", to = "if (this.spread == spread) { return 0; } this.spread = spread;")
+    @Fault(in = "setSpread", from = "this.spread = spread;",
+            to = "if (this.spread == spread) { return 0; } this.spread = spread;")
     @Fault(in = "next", from = "return lookAtOrders()", to = "return 0")
     @Fault(in = "lookAtOrders", from = "doneIfPossible(place)", to = "(place < 9 && doneIfPossible(place))")
-    @Fault(in = "lookAtOrders", from = "!doneIfPossible(place)", to = "kept == place && place < waiting - 1 || !doneIfPossible(place)")
+    @Fault(in = "lookAtOrders", from = "!doneIfPossible(place)",
+            to = "kept == place && place < waiting - 1 || !doneIfPossible(place)")
     @Fault(in = "setLimit", from = "return before", to = "lookAtOrders(); return before")
     @Fault(in = "stock", from = "return stocks[money]", to = "lookAtOrders(); return stocks[money]")
     @Fault(in = "come", from = "return customers - 1", to = "lookAtOrders(); return customers - 1")
@@ -605,7 +608,8 @@ public final class TermsTest {
     }
 
     @Sentence(of = "Terms", words = "once, in their order")
-    @Fault(in = "lookAtOrders", from = "int kept = 0;", to = "int kept = waiting > 1 && doneIfPossible(waiting - 1) ? 0 : 0;")
+    @Fault(in = "lookAtOrders", from = "int kept = 0;",
+            to = "int kept = waiting > 1 && doneIfPossible(waiting - 1) ? 0 : 0;")
     static void lookedAtInTheirOrder(Check check) {
         MoneyBooth x = Booths.evenBooth();
         x.setLimit(1, 30);
@@ -773,22 +777,37 @@ public final class TermsTest {
     }
 
     @Sentence(of = "Terms", words = "If several exceptions apply, the one that is named first is thrown.")
-    @Fault(in = "setRate", from = "if (!isMoney", to = "if (rate < 0) { throw new IllegalArgumentException(); } if (!isMoney")
-    @Fault(in = "setRate", from = "if (!isMoney", to = "if (from == to) { throw new IllegalArgumentException(); } if (!isMoney")
-    @Fault(in = "setLimit", from = "if (!isMoney", to = "if (most < 0) { throw new IllegalArgumentException(); } if (!isMoney")
-    @Fault(in = "stock", from = "if (!isMoney", to = "if (more < 1) { throw new IllegalArgumentException(); } if (!isMoney")
-    @Fault(in = "earn", from = "if (!isCust", to = "if (more < 1) { throw new IllegalArgumentException(); } if (!isCust")
-    @Fault(in = "change", from = "if (!isCust", to = "if (from == to) { throw new IllegalStateException(); } if (!isCust")
-    @Fault(in = "change", from = "if (!isCust", to = "if (amount < 1) { throw new IllegalStateException(); } if (!isCust")
-    @Fault(in = "order", from = "if (!isCust", to = "if (amount < 1) { throw new IllegalArgumentException(); } if (!isCust")
-    @Fault(in = "order", from = "if (!isCust", to = "if (from == to) { throw new IllegalArgumentException(); } if (!isCust")
-    @Fault(in = "order", from = "if (!isCust", to = "if (waiting > 9) { throw new IllegalStateException(); } if (!isCust")
+    @Fault(in = "setRate", from = "if (!isMoney",
+            to = "if (rate < 0) { throw new IllegalArgumentException(); } if (!isMoney")
+    @Fault(in = "setRate", from = "if (!isMoney",
+            to = "if (from == to) { throw new IllegalArgumentException(); } if (!isMoney")
+    @Fault(in = "setLimit", from = "if (!isMoney",
+            to = "if (most < 0) { throw new IllegalArgumentException(); } if (!isMoney")
+    @Fault(in = "stock", from = "if (!isMoney",
+            to = "if (more < 1) { throw new IllegalArgumentException(); } if (!isMoney")
+    @Fault(in = "earn", from = "if (!isCust",
+            to = "if (more < 1) { throw new IllegalArgumentException(); } if (!isCust")
+    @Fault(in = "change", from = "if (!isCust",
+            to = "if (from == to) { throw new IllegalStateException(); } if (!isCust")
+    @Fault(in = "change", from = "if (!isCust",
+            to = "if (amount < 1) { throw new IllegalStateException(); } if (!isCust")
+    @Fault(in = "order", from = "if (!isCust",
+            to = "if (amount < 1) { throw new IllegalArgumentException(); } if (!isCust")
+    @Fault(in = "order", from = "if (!isCust",
+            to = "if (from == to) { throw new IllegalArgumentException(); } if (!isCust")
+    @Fault(in = "order", from = "if (!isCust",
+            to = "if (waiting > 9) { throw new IllegalStateException(); } if (!isCust")
     @Fault(in = "order", from = "if (from", to = "if (waiting > 9) { throw new IllegalStateException(); } if (from")
-    @Fault(in = "would", from = "if (!isMoney", to = "if (amount < 0) { throw new IllegalArgumentException(); } if (!isMoney")
-    @Fault(in = "way", from = "if (!isMoney", to = "if (amount < 0) { throw new IllegalArgumentException(); } if (!isMoney")
-    @Fault(in = "way", from = "if (!isMoney", to = "if (from == to) { throw new IllegalArgumentException(); } if (!isMoney")
-    @Fault(in = "ring", from = "if (!isMoney", to = "if (amount < 0) { throw new IllegalArgumentException(); } if (!isMoney")
-    @Fault(in = "needs", from = "if (!isMoney", to = "if (from == to) { throw new IllegalArgumentException(); } if (!isMoney")
+    @Fault(in = "would", from = "if (!isMoney",
+            to = "if (amount < 0) { throw new IllegalArgumentException(); } if (!isMoney")
+    @Fault(in = "way", from = "if (!isMoney",
+            to = "if (amount < 0) { throw new IllegalArgumentException(); } if (!isMoney")
+    @Fault(in = "way", from = "if (!isMoney",
+            to = "if (from == to) { throw new IllegalArgumentException(); } if (!isMoney")
+    @Fault(in = "ring", from = "if (!isMoney",
+            to = "if (amount < 0) { throw new IllegalArgumentException(); } if (!isMoney")
+    @Fault(in = "needs", from = "if (!isMoney",
+            to = "if (from == to) { throw new IllegalArgumentException(); } if (!isMoney")
     static void theFirstException(Check check) {
         MoneyBooth x = fullBooth();
         check.refused(x, "setRate(0, 5, -1)", Booths.NO_SUCH, () -> x.setRate(0, 5, -1));

@@ -157,7 +157,8 @@ public final class WouldTest {
 
     @Sentence(of = "Promise 17", words = "(none at a rate of 0)")
     @Fault(in = "rateOf", from = "rates[from * MONEYS + to]", to = "Math.max(1, rates[from * MONEYS + to])")
-    @Fault(in = "behindOneChange", from = "return Math.min(", to = "if (rateOf(from, to) == 0) { return amount; } return Math.min(")
+    @Fault(in = "behindOneChange", from = "return Math.min(",
+            to = "if (rateOf(from, to) == 0) { return amount; } return Math.min(")
     static void wayAtNoRate(Check check) {
         MoneyBooth x = atRates(0, 2, 9999, 3, 1, 9999, 2, 0, 9999, 1, 3, 9999);
         check.is("there is no rate between 2 and 3", 0, x.way(0, 1, 99999));
@@ -308,7 +309,8 @@ public final class WouldTest {
 
     @Sentence(of = "Promise 18", words = "(none at a rate of 0)")
     @Fault(in = "rateOf", from = "rates[from * MONEYS + to]", to = "Math.max(1, rates[from * MONEYS + to])")
-    @Fault(in = "behindOneChange", from = "return Math.min(", to = "if (rateOf(from, to) == 0) { return amount; } return Math.min(")
+    @Fault(in = "behindOneChange", from = "return Math.min(",
+            to = "if (rateOf(from, to) == 0) { return amount; } return Math.min(")
     static void ringAtNoRate(Check check) {
         MoneyBooth x = atRates(0, 1, 9999, 2, 0, 9999);
         check.is("there is no rate between 1 and 2", 0, x.ring(0, 100));
@@ -479,7 +481,8 @@ public final class WouldTest {
             to = "return (int) rate;")
     @Fault(in = "leastRateFor", from = "isAllowed(purse,", to = "isAllowed(MOST_HELD,")
     @Fault(in = "leastRateFor", from = "isAllowed(purse,", to = "isAllowed(purse + 1,")
-    @Fault(in = "leastRateFor", from = "orderPart(place, ORDER_TO), amount, given", to = "orderPart(place, ORDER_TO), amount, given - 1")
+    @Fault(in = "leastRateFor", from = "orderPart(place, ORDER_TO), amount, given",
+            to = "orderPart(place, ORDER_TO), amount, given - 1")
     @Fault(in = "leastRateFor", from = "(WHOLE_PERCENT - spread)", to = "WHOLE_PERCENT")
     @Fault(in = "isAllowed", from = "given <= stocks[to]", to = "given < stocks[to]")
     @Fault(in = "isAllowed", from = "given <= limits[to]", to = "given < limits[to]")
@@ -518,7 +521,8 @@ public final class WouldTest {
     @Sentence(of = "Promise 19", words = "and would give at least what it asks for")
     @Fault(in = "leastRateFor", from = "orderPart(place, ORDER_ASKS) *", to = "(orderPart(place, ORDER_ASKS) - 1) *")
     @Fault(in = "leastRateFor", from = "orderPart(place, ORDER_ASKS) *", to = "(orderPart(place, ORDER_ASKS) + 1) *")
-    @Fault(in = "leastRateFor", from = "long given = wholeOnes(worthOfOneRate * rate)", to = "long given = orderPart(place, ORDER_ASKS)")
+    @Fault(in = "leastRateFor", from = "long given = wholeOnes(worthOfOneRate * rate)",
+            to = "long given = orderPart(place, ORDER_ASKS)")
     static void needsGivesEnough(Check check) {
         for (int asks : new int[] {1, 2, 98, 99, 100, 101, 245, 9998, 9999}) {
             MoneyBooth x = Booths.richIn(1);
@@ -539,7 +543,8 @@ public final class WouldTest {
     @Sentence(of = "Promise 19", words = "-1 if there is no such order or rate")
     @Fault(in = "needs", from = "place < 0 ? -1", to = "place < 0 ? 0")
     @Fault(in = "leastRateFor", from = "(int) rate : -1", to = "(int) rate : 0")
-    @Fault(in = "leastRateFor", from = "if (rate > MOST_RATE) {\n            return -1;", to = "if (rate > MOST_RATE) {\n            return 10000;")
+    @Fault(in = "leastRateFor", from = "if (rate > MOST_RATE) {\n            return -1;",
+            to = "if (rate > MOST_RATE) {\n            return 10000;")
     @Fault(in = "firstOrderPlace", from = "return -1", to = "return 0")
     static void needsNoSuch(Check check) {
         MoneyBooth x = Booths.richIn(1);
@@ -607,7 +612,8 @@ public final class WouldTest {
     // ---- mean
 
     @Sentence(of = "Promise 20", words = "Returns the mean of how much customers have of it; 0 without customers.")
-    @Fault(in = "mean", from = "if (customers <= 0) {\n            return 0;", to = "if (customers <= 0) {\n            return 1;")
+    @Fault(in = "mean", from = "if (customers <= 0) {\n            return 0;",
+            to = "if (customers <= 0) {\n            return 1;")
     @Fault(in = "mean", from = "if (customers <= 0) {\n            return 0;\n        }", to = "")
     @Fault(in = "mean", from = "if (customers <= 0)", to = "if (customers <= 1)")
     @Fault(in = "mean", from = "(double) inAllPurses", to = "inAllPurses")
