@@ -1,3 +1,7 @@
+import java.math.BigInteger;
+import java.util.ArrayList;
+import java.util.List;
+
 /** What the tests have in common: booths to begin with, and arguments that no call takes. */
 final class Booths {
     static final Class<IndexOutOfBoundsException> NO_SUCH = IndexOutOfBoundsException.class;
@@ -63,5 +67,41 @@ final class Booths {
         for (int i = 0; i < 10; i++) {
             x.stock(money, 99999);
         }
+    }
+
+    /** The digest as the document words it, out of what the other calls tell; rates show as what 10000 brings. */
+    static long reckonedDigest(MoneyBooth x) {
+        List<Integer> numbers = new ArrayList<>();
+        for (int what = 0; what <= 6; what++) {
+            numbers.add(x.count(what));
+        }
+        for (int money = 0; money <= 4; money++) {
+            for (int what = 0; what <= 4; what++) {
+                numbers.add(x.told(money, what));
+            }
+            for (int to = 0; to <= 4; to++) {
+                numbers.add(money == to ? 0 : rate(x, money, to));
+            }
+        }
+        for (int customer = 0; customer < x.count(2); customer++) {
+            for (int money = 0; money <= 4; money++) {
+                numbers.add(x.has(customer, money));
+            }
+        }
+        for (int place = 0; place < x.count(3); place++) {
+            for (int what = 0; what <= 4; what++) {
+                numbers.add(x.about(place, what));
+            }
+        }
+        BigInteger d = BigInteger.valueOf(1367);
+        for (int number : numbers) {
+            d = d.multiply(BigInteger.valueOf(31)).add(BigInteger.valueOf(number));
+        }
+        return d.longValue();
+    }
+
+    /** 10000 at a rate r bring r * (100 - spread), and no whole one is cut from that. */
+    private static int rate(MoneyBooth x, int from, int to) {
+        return x.would(from, to, 10000) / (100 - x.count(1));
     }
 }

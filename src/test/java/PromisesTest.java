@@ -1,6 +1,3 @@
-import java.util.ArrayList;
-import java.util.List;
-
 /** One method or more for each promise of the document, with answers reckoned by hand from its words. */
 public final class PromisesTest {
     private static final Class<IndexOutOfBoundsException> NO_SUCH = Booths.NO_SUCH;
@@ -786,18 +783,15 @@ public final class PromisesTest {
 
     private static void digest() {
         MoneyBooth x = new MoneyBooth();
-        int[] none = new int[25];
-        dueDigest("new", x, none);
+        due("new: digest()", Booths.reckonedDigest(x), () -> x.digest());
         for (int i = 0; i < 3; i++) {
             x.come();
             for (int money = 0; money < 5; money++) {
                 x.earn(i, money, 99999 - 7 * i - money);
             }
         }
-        int[] rates = new int[25];
         for (int cell = 0; cell < 25; cell++) {
             if (cell / 5 != cell % 5) {
-                rates[cell] = 90 + cell;
                 x.setRate(cell / 5, cell % 5, 90 + cell);
             }
         }
@@ -809,7 +803,7 @@ public final class PromisesTest {
         x.order(0, 1, 2, 6, 50);
         x.next();
         x.change(2, 3, 0, 45);
-        dueDigest("in use", x, rates);
+        due("in use: digest()", Booths.reckonedDigest(x), () -> x.digest());
         dueCounts("in use", x, 1, 2, 3, 2, 20, 3, 1);
         long before = x.digest();
         x.would(0, 1, 5);
@@ -818,36 +812,5 @@ public final class PromisesTest {
         x.needs(3, 0);
         x.mean(2);
         due("looking changes nothing", before, () -> x.digest());
-    }
-
-    /** The digest as the document words it, out of what the other methods tell. */
-    private static void dueDigest(String when, MoneyBooth x, int[] rates) {
-        List<Integer> numbers = new ArrayList<>();
-        for (int what = 0; what <= 6; what++) {
-            numbers.add(x.count(what));
-        }
-        for (int money = 0; money <= 4; money++) {
-            for (int what = 0; what <= 4; what++) {
-                numbers.add(x.told(money, what));
-            }
-            for (int to = 0; to <= 4; to++) {
-                numbers.add(rates[5 * money + to]);
-            }
-        }
-        for (int customer = 0; customer < x.count(2); customer++) {
-            for (int money = 0; money <= 4; money++) {
-                numbers.add(x.has(customer, money));
-            }
-        }
-        for (int place = 0; place < x.count(3); place++) {
-            for (int what = 0; what <= 4; what++) {
-                numbers.add(x.about(place, what));
-            }
-        }
-        long d = 1367;
-        for (int number : numbers) {
-            d = d * 31 + number;
-        }
-        due(when + ": digest()", d, () -> x.digest());
     }
 }

@@ -1,7 +1,3 @@
-import java.math.BigInteger;
-import java.util.ArrayList;
-import java.util.List;
-
 /** A test for each sentence of the promises 16 to 21 that names a boundary case: what would be. */
 public final class WouldTest {
     public static void main(String[] args) {
@@ -733,39 +729,7 @@ public final class WouldTest {
         check.is("count(0)", 0, x.count(0));
     }
 
-    /** The digest as the document words it, out of what the other calls tell; rates show as what 10000 brings. */
     private static void dueDigest(Check check, String when, MoneyBooth x) {
-        List<Integer> numbers = new ArrayList<>();
-        for (int what = 0; what <= 6; what++) {
-            numbers.add(x.count(what));
-        }
-        for (int money = 0; money <= 4; money++) {
-            for (int what = 0; what <= 4; what++) {
-                numbers.add(x.told(money, what));
-            }
-            for (int to = 0; to <= 4; to++) {
-                numbers.add(money == to ? 0 : rate(x, money, to));
-            }
-        }
-        for (int customer = 0; customer < x.count(2); customer++) {
-            for (int money = 0; money <= 4; money++) {
-                numbers.add(x.has(customer, money));
-            }
-        }
-        for (int place = 0; place < x.count(3); place++) {
-            for (int what = 0; what <= 4; what++) {
-                numbers.add(x.about(place, what));
-            }
-        }
-        BigInteger d = BigInteger.valueOf(1367);
-        for (int number : numbers) {
-            d = d.multiply(BigInteger.valueOf(31)).add(BigInteger.valueOf(number));
-        }
-        check.is(when + ": digest()", d.longValue(), x.digest());
-    }
-
-    /** 10000 at a rate r bring r * (100 - spread), and no whole one is cut from that. */
-    private static int rate(MoneyBooth x, int from, int to) {
-        return x.would(from, to, 10000) / (100 - x.count(1));
+        check.is(when + ": digest()", Booths.reckonedDigest(x), x.digest());
     }
 }
